@@ -23,7 +23,7 @@ public final class ExampleTables {
     private static final int FAULT_NOT_TOLD = 3;
     private static final int FAULT_TOLD_ALREADY = 4;
 
-    // Kinds of TOKENS; the last three are no TOKENS, or none that may stand anywhere.
+    // Kinds of TOKENS; a long word is too much, the last two are the text's end and what is no TOKEN.
     private static final int WORD = 0;
     private static final int INPUT = 1;
     private static final int OUTPUT = 2;
@@ -367,105 +367,74 @@ public final class ExampleTables {
         }
     }
 
-    /** Cuts a text into TOKENS, one at a time. */
+    /** A text, cut into TOKENS; it looks at one of them at a time. */
     static final class Lexer {
-        byte[] text;
-        int length;
-        // The TOKEN that is looked at: its first byte, and the byte behind it.
-        int place;
-        int end;
-        int kind;
+        // Each TOKEN has a byte at least, and the end stands behind them all.
+        final int[] kinds;
+        final int[] places;
         // A word's signs, a byte each, the first one highest.
+        final long[] words;
+        int size;
+        int at;
+        // The TOKEN that is looked at.
+        int kind;
+        int place;
         long word;
 
         Lexer() {
-            text = new byte[0];
-            length = 0;
-            place = 0;
-            end = 0;
+            kinds = new int[MOST_BYTES + 1];
+            places = new int[MOST_BYTES + 1];
+            words = new long[MOST_BYTES + 1];
+            size = 0;
+            at = 0;
             kind = END;
+            place = 0;
             word = 0L;
         }
 
-        void open(byte[] bytes, int n) {
-            text = bytes;
-            length = Math.max(0, Math.min(n, bytes.length));
-            end = 0;
+        /** Cuts the first n bytes, and looks at the first TOKEN. */
+        void open(byte[] text, int n) {
+            int length = Math.min(n, text.length);
+            int from = 0;
+            size = 0;
+            while (from < length) {
+                int sign = text[from];
+                if (isWordSign(sign)) {
+                    from = cutWord(text, from, length);
+                } else if (sign == ' ' || sign == '\n') {
+                    from++;
+                } else {
+                    boolean arrow = sign == '-' && from + 1 < length && text[from + 1] == '>';
+                    add(arrow ? ARROW : kindOfSign(sign), from, 0L);
+                    from += arrow ? 2 : 1;
+                }
+            }
+            add(END, length, 0L);
+            at = NONE;
             next();
         }
 
+        /** Looks at the next TOKEN; at the end it stays. */
         void next() {
-            place = end;
-            while (place < length && (text[place] == ' ' || text[place] == '\n')) {
-                place++;
+            if (at + 1 < size) {
+                at++;
+                kind = kinds[at];
+                place = places[at];
+                word = words[at];
             }
-            end = place;
-            word = 0L;
-            if (place >= length) {
-                kind = END;
-            } else if (isWordSign(text[place])) {
-                readWord();
-            } else {
-                readSign();
+        }
+
+        private void add(int kindOfToken, int from, long signs) {
+            if (size < kinds.length) {
+                kinds[size] = kindOfToken;
+                places[size] = from;
+                words[size] = signs;
+                size++;
             }
         }
 
         private static boolean isWordSign(int sign) {
             return (sign >= 'a' && sign <= 'z') || (sign >= '0' && sign <= '9');
-        }
-
-        private void readWord() {
-            while (end < length && isWordSign(text[end])) {
-                word = (word << 8) | text[end];
-                end++;
-            }
-            kind = end - place > MOST_SIGNS ? LONG_WORD : kindOfWord();
-        }
-
-        private int kindOfWord() {
-            if (spells("input")) {
-                return INPUT;
-            }
-            if (spells("output")) {
-                return OUTPUT;
-            }
-            if (spells("row")) {
-                return ROW;
-            }
-            if (spells("when")) {
-                return WHEN;
-            }
-            if (spells("and")) {
-                return AND;
-            }
-            if (spells("then")) {
-                return THEN;
-            }
-            return spells("else") ? ELSE : WORD;
-        }
-
-        private boolean spells(String keyword) {
-            if (end - place != keyword.length()) {
-                return false;
-            }
-            for (int i = 0; i < keyword.length() && place + i < length; i++) {
-                if (text[place + i] != keyword.charAt(i)) {
-                    return false;
-                }
-            }
-            return true;
-        }
-
-        private void readSign() {
-            kind = place < length ? kindOfSign(text[place]) : END;
-            end = place + 1;
-            if (kind == ARROW) {
-                if (end < length && text[end] == '>') {
-                    end++;
-                } else {
-                    kind = NO_TOKEN;
-                }
-            }
         }
 
         private static int kindOfSign(int sign) {
@@ -480,11 +449,51 @@ public final class ExampleTables {
                     return SEMICOLON;
                 case ':':
                     return COLON;
-                case '-':
-                    return ARROW;
                 default:
                     return NO_TOKEN;
             }
+        }
+
+        /** Cuts the longest row of signs; answers where it ends. */
+        private int cutWord(byte[] text, int from, int length) {
+            long signs = 0L;
+            int end = from;
+            while (end < length && isWordSign(text[end])) {
+                signs = (signs << 8) | text[end];
+                end++;
+            }
+            add(end - from > MOST_SIGNS ? LONG_WORD : kindOfWord(signs), from, signs);
+            return end;
+        }
+
+        private static int kindOfWord(long signs) {
+            if (spells(signs, "input")) {
+                return INPUT;
+            }
+            if (spells(signs, "output")) {
+                return OUTPUT;
+            }
+            if (spells(signs, "row")) {
+                return ROW;
+            }
+            if (spells(signs, "when")) {
+                return WHEN;
+            }
+            if (spells(signs, "and")) {
+                return AND;
+            }
+            if (spells(signs, "then")) {
+                return THEN;
+            }
+            return spells(signs, "else") ? ELSE : WORD;
+        }
+
+        private static boolean spells(long signs, String keyword) {
+            long same = 0L;
+            for (int i = 0; i < keyword.length(); i++) {
+                same = (same << 8) | keyword.charAt(i);
+            }
+            return same == signs;
         }
     }
 
@@ -519,8 +528,8 @@ public final class ExampleTables {
             return read ? FAULT_NONE : found;
         }
 
-        private boolean refuse(int kindOfFault) {
-            found = kindOfFault;
+        private boolean refuse(int fault) {
+            found = fault;
             return false;
         }
 
@@ -629,57 +638,50 @@ public final class ExampleTables {
         }
 
         /** The VALUE of OUTPUT that ends a ROW or a WHEN, and its ';'. */
-        private boolean readOutcome(Layout of, Rows rows) {
-            if (!valueIsHere(of.output)) {
+        private boolean readOutcome(Layout of, Rows into) {
+            int outcome = toldHere(of.output);
+            if (outcome == NONE) {
                 return false;
             }
-            int outcome = of.output.indexOf(lexer.word);
             lexer.next();
-            if (!pass(SEMICOLON)) {
-                return false;
-            }
-            rows.close(outcome);
-            return true;
+            into.close(outcome);
+            return pass(SEMICOLON);
         }
 
-        private boolean valueIsHere(Column column) {
+        /** The number of a Column's VALUE that stands here; NONE, and the FAULT is found, if none does. */
+        private int toldHere(Column column) {
             if (!wordIsHere()) {
-                return false;
+                return NONE;
             }
-            return column.indexOf(lexer.word) != NONE || refuse(FAULT_NOT_TOLD);
+            int number = column.indexOf(lexer.word);
+            if (number == NONE) {
+                found = FAULT_NOT_TOLD;
+            }
+            return number;
         }
 
-        private boolean readCell(Column column, Rows rows, int input) {
+        private boolean readCell(Column column, Rows into, int input) {
             if (lexer.kind == STAR) {
                 lexer.next();
                 return true;
             }
-            if (lexer.kind != BANG) {
-                return readOneOfSome(column, rows, input);
+            boolean allBut = lexer.kind == BANG;
+            if (allBut) {
+                lexer.next();
             }
-            lexer.next();
-            if (!valueIsHere(column)) {
-                return false;
-            }
-            rows.narrow(input, ~(1 << column.indexOf(lexer.word)));
-            lexer.next();
-            return true;
-        }
-
-        private boolean readOneOfSome(Column column, Rows rows, int input) {
             int mask = 0;
             for (int k = 0; k <= MOST_VALUES; k++) {
-                if (!valueIsHere(column)) {
+                int number = toldHere(column);
+                if (number == NONE) {
                     return false;
                 }
-                int bit = 1 << column.indexOf(lexer.word);
-                if ((mask & bit) != 0) {
+                if (((mask >> number) & 1) != 0) {
                     return refuse(FAULT_TOLD_ALREADY);
                 }
-                mask |= bit;
+                mask |= 1 << number;
                 lexer.next();
-                if (lexer.kind != SLASH) {
-                    rows.narrow(input, mask);
+                if (allBut || lexer.kind != SLASH) {
+                    into.narrow(input, allBut ? ~mask : mask);
                     return true;
                 }
                 lexer.next();
@@ -710,7 +712,15 @@ public final class ExampleTables {
             into.open();
             // A text has no more TESTS than bytes.
             for (int k = 0; k < MOST_BYTES; k++) {
-                if (!readTest(of, into)) {
+                if (!wordIsHere()) {
+                    return false;
+                }
+                int input = of.inputNamed(lexer.word);
+                if (input == NONE) {
+                    return refuse(FAULT_NOT_TOLD);
+                }
+                lexer.next();
+                if (!pass(COLON) || !readCell(of.inputs[input], into, input)) {
                     return false;
                 }
                 if (lexer.kind != AND) {
@@ -721,23 +731,14 @@ public final class ExampleTables {
             return refuse(FAULT_PLACE);
         }
 
-        private boolean readTest(Layout of, Rows into) {
-            if (!wordIsHere()) {
-                return false;
-            }
-            int input = of.inputNamed(lexer.word);
-            if (input == NONE) {
-                return refuse(FAULT_NOT_TOLD);
-            }
-            lexer.next();
-            return pass(COLON) && readCell(of.inputs[input], into, input);
-        }
-
         private boolean readElse(Layout of, Whens into) {
-            if (!pass(ELSE) || !valueIsHere(of.output)) {
+            if (!pass(ELSE)) {
                 return false;
             }
-            into.otherwise = of.output.indexOf(lexer.word);
+            into.otherwise = toldHere(of.output);
+            if (into.otherwise == NONE) {
+                return false;
+            }
             lexer.next();
             return pass(SEMICOLON) && (lexer.kind == END || refuse(FAULT_PLACE));
         }
@@ -762,6 +763,11 @@ public final class ExampleTables {
                 }
             }
             return NONE;
+        }
+
+        /** A VALUE's word; 0, a word without signs, if there is none. */
+        long wordAt(int number) {
+            return number >= 0 && number < size ? values[number] : 0L;
         }
 
         void add(long word) {
@@ -1036,6 +1042,9 @@ public final class ExampleTables {
             terms.openCases(answers, answer);
             while (terms.openCount > 0 && takenCount < taken.length) {
                 int best = terms.best(answer);
+                if (best == NONE) {
+                    return;
+                }
                 taken[takenCount] = best;
                 takenCount++;
                 terms.closeCases(best, caseValues);
@@ -1169,12 +1178,12 @@ public final class ExampleTables {
 
         /** Of the TERMS of an ANSWER that which holds most open CASES, tells fewest INPUTS, comes first. */
         int best(int answer) {
-            int best = 0;
+            int best = NONE;
             int gain = 0;
             for (int term = 0; term < count; term++) {
                 gains[term] = only[term] == answer ? gainOf(term) : 0;
-                boolean fewer = toldCount[term] < toldCount[best];
-                if (gains[term] > gain || (gains[term] == gain && gain > 0 && fewer)) {
+                boolean fewer = best != NONE && toldCount[term] < toldCount[best];
+                if (gains[term] > gain || (gains[term] == gain && fewer)) {
                     best = term;
                     gain = gains[term];
                 }
@@ -1259,7 +1268,7 @@ public final class ExampleTables {
         }
 
         void putTerm(Table of, int term) {
-            putWord(of.layout.output.values[of.terms.only[term]]);
+            putWord(of.layout.output.wordAt(of.terms.only[term]));
             putText(" if");
             boolean toldOne = false;
             for (int i = 0; i < of.layout.inputCount; i++) {
@@ -1268,7 +1277,7 @@ public final class ExampleTables {
                     putText(toldOne ? " and " : " ");
                     putWord(of.layout.inputs[i].name);
                     putText(" is ");
-                    putWord(of.layout.inputs[i].values[value]);
+                    putWord(of.layout.inputs[i].wordAt(value));
                     toldOne = true;
                 }
             }

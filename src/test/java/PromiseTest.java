@@ -577,7 +577,8 @@ public final class PromiseTest {
             Check.due("run 0 in " + k, want[k], () -> x.run(0, number));
             Check.due("run 2 in " + k, 0, () -> x.run(2, number));
         }
-        Check.due("both TESTS can't hold", 1, () -> x.run(1, 0));
+        Check.due("both TESTS can't hold: the second fails", 1, () -> x.run(1, 0));
+        Check.due("both TESTS can't hold: the first fails", 1, () -> x.run(1, 1));
         Check.noSuch("run in CASE 2", () -> x.run(1, 2));
         Check.noSuch("run in CASE -1", () -> x.run(1, -1));
         Check.noSuch("run of no PROGRAM", () -> x.run(3, 0));
