@@ -811,7 +811,8 @@ public final class ExampleTables {
         }
 
         int cell(int row, int input) {
-            return cells[row * MOST_INPUTS + input];
+            int at = row * MOST_INPUTS + input;
+            return at >= 0 && at < cells.length ? cells[at] : 0;
         }
 
         boolean fits(int row, int[][] caseValues, int number) {
