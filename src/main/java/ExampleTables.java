@@ -49,9 +49,10 @@ public final class ExampleTables {
     private int tableCount;
     private final Program[] programs;
     private int programCount;
-    // What a text is read into; it is made anew only when it has been kept.
+    // What a TABLE's text is read into; it is made anew only when it has been kept.
     private Layout layout;
-    private Whens whens;
+    // What a PROGRAM's text is read into; only its answers are kept.
+    private final Whens whens;
     private int faultPlace;
     private final Out out;
 
@@ -114,11 +115,10 @@ public final class ExampleTables {
             faultPlace = parser.place();
             return -1 - found;
         }
-        Program made = new Program(of, whens);
-        made.findAnswers();
+        Program made = new Program(of);
+        made.findAnswers(whens);
         programs[programCount] = made;
         programCount++;
-        whens = new Whens();
         return programCount - 1;
     }
 
@@ -1224,16 +1224,14 @@ public final class ExampleTables {
     /** A PROGRAM of a TABLE, with its answers in all CASES. */
     static final class Program {
         final Table table;
-        final Whens whens;
         final int[] answers;
 
-        Program(Table of, Whens told) {
+        Program(Table of) {
             table = of;
-            whens = told;
             answers = new int[of.caseCount];
         }
 
-        void findAnswers() {
+        void findAnswers(Whens whens) {
             for (int number = 0; number < answers.length; number++) {
                 int first = whens.rows.firstFitting(0, table.caseValues, number);
                 answers[number] = first == NONE ? whens.otherwise : whens.rows.outcomes[first];

@@ -47,10 +47,11 @@ public final class OracleTest {
     private void load() {
         x = new ExampleTables();
         calls = 0;
-        Check.table(x, tableText);
+        Texts.table(x, tableText);
         for (String text : programTexts) {
-            Check.program(x, 0, text);
+            Texts.program(x, 0, text);
         }
+        x.tell(0);
     }
 
     private void compareOneTable() {
@@ -162,10 +163,12 @@ public final class OracleTest {
         }
         String told = table.told();
         due("tell", told.length(), t -> t.tell(0));
-        x.tell(0);
-        String kept = told.substring(0, Math.min(2000, told.length()));
-        Check.due("told of " + tableText, kept, () -> Check.told(x));
-        load();
+        int kept = Math.min(2000, told.length());
+        due("kept", kept, t -> t.count(3));
+        for (int k = 0; k < kept; k++) {
+            int at = k;
+            due("told " + k, (int) told.charAt(k), t -> t.told(at));
+        }
     }
 
     private static int valueOf(Oracle.Table table, Map<String, String> term, String name) {
@@ -233,11 +236,11 @@ public final class OracleTest {
             if (lot.nextInt(2) == 0) {
                 String text = broken(tableText);
                 ExampleTables y = new ExampleTables();
-                compareFault(text, () -> Oracle.table(text), () -> Check.table(y, text), y);
+                compareFault(text, () -> Oracle.table(text), () -> Texts.table(y, text), y);
             } else {
                 String text = broken(someProgram(table));
                 load();
-                compareFault(text, () -> Oracle.program(table, text), () -> Check.program(x, 0, text), x);
+                compareFault(text, () -> Oracle.program(table, text), () -> Texts.program(x, 0, text), x);
             }
         }
     }

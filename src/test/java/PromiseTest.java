@@ -1,17 +1,5 @@
 /** Each promise of the document: ordinary inputs, the edges it names, and wrong inputs. */
 public final class PromiseTest {
-    private static final int LEAST = Integer.MIN_VALUE;
-    private static final int MOST = Integer.MAX_VALUE;
-
-    /** Six CASES, no HOLE, one QUARREL, no IDLE ROW. */
-    private static final String SMALL =
-        "input a: x y; input b: p q r; output o: s t; row x p -> s; row * !p -> t; row y * -> s;";
-    /** Eight CASES, five HOLES, no QUARREL, one IDLE ROW. */
-    private static final String OPEN =
-        "input a: 0 1; input b: 0 1; input c: 0 1; output z: no yes;"
-            + " row 1 1 * -> yes; row 0 0 0 -> no; row 1 1 0 -> yes;";
-    private static final String TINY = "input a:x y;output o:s t;";
-
     private PromiseTest() {
     }
 
@@ -41,17 +29,6 @@ public final class PromiseTest {
         Check.end();
     }
 
-    private static ExampleTables with(String... tables) {
-        ExampleTables x = new ExampleTables();
-        for (String table : tables) {
-            int number = Check.table(x, table);
-            if (number < 0) {
-                Check.due("table of " + table, 0, () -> number);
-            }
-        }
-        return x;
-    }
-
     private static void promise01NewObject() {
         ExampleTables x = new ExampleTables();
         Check.due("NONE", -1, () -> ExampleTables.NONE);
@@ -72,7 +49,7 @@ public final class PromiseTest {
         ExampleTables x = new ExampleTables();
         for (int k = 1; k <= 50; k++) {
             int want = k * 20;
-            Check.due("feed " + k, want, () -> x.feed(LEAST, -1, 0, 1, MOST));
+            Check.due("feed " + k, want, () -> x.feed(Check.LEAST, -1, 0, 1, Check.MOST));
         }
         Check.due("feed beyond 1,000", -1, () -> x.feed(0, 0, 0, 0, 0));
         Check.due("feed beyond 1,000 again", -1, () -> x.feed(0, 0, 0, 0, 0));
@@ -88,26 +65,13 @@ public final class PromiseTest {
         Check.due("table of two feeds", 0, () -> y.table(40));
     }
 
-    private static void faulty(int kind, int place, String text) {
-        ExampleTables x = new ExampleTables();
-        Check.due("table '" + text + "'", -1 - kind, () -> Check.table(x, text));
-        Check.due("fault of '" + text + "'", place, x::fault);
-        Check.due("no TABLE of '" + text + "'", 0, () -> x.count(0));
-    }
-
-    /** A text with its FAULT at the sign that stands behind '#'. */
-    private static void faulty(int kind, String marked) {
-        int place = marked.indexOf('#');
-        faulty(kind, place, marked.substring(0, place) + marked.substring(place + 1));
-    }
-
     private static void promise03Table() {
         ExampleTables x = new ExampleTables();
-        Check.feed(x, TINY + "this is behind it");
+        Texts.feed(x, Texts.TINY + "this is behind it");
         Check.illegal("table below 0", () -> x.table(-1));
-        Check.illegal("table least", () -> x.table(LEAST));
+        Check.illegal("table least", () -> x.table(Check.LEAST));
         Check.illegal("table of more than the tape has", () -> x.table(61));
-        Check.illegal("table most", () -> x.table(MOST));
+        Check.illegal("table most", () -> x.table(Check.MOST));
         Check.due("nothing has changed", 60, () -> x.count(2));
         Check.due("table of the first bytes", 0, () -> x.table(25));
         Check.due("the tape is empty", 0, () -> x.count(2));
@@ -115,145 +79,136 @@ public final class PromiseTest {
         Check.due("ends too soon at 0", 0, x::fault);
         for (int k = 1; k < 6; k++) {
             int want = k;
-            Check.due("table " + k, want, () -> Check.table(x, SMALL));
+            Check.due("table " + k, want, () -> Texts.table(x, Texts.SMALL));
         }
-        Check.due("a 7th", -9, () -> Check.table(x, SMALL));
+        Check.due("a 7th", -9, () -> Texts.table(x, Texts.SMALL));
         Check.due("a 7th has no FAULT", -1, x::fault);
         Check.due("a 7th empties the tape", 0, () -> x.count(2));
-        Check.due("a 7th that is none", -9, () -> Check.table(x, "input"));
+        Check.due("a 7th that is none", -9, () -> Texts.table(x, "input"));
         Check.illegal("a 7th that the tape has not", () -> x.table(1));
         Check.due("six TABLES", 6, () -> x.count(0));
 
-        faulty(1, "#");
-        faulty(1, "  \n #");
-        faulty(1, "#output o: s t;");
-        faulty(1, "#inputs a: x y;");
-        faulty(1, "#inputinput a: x y;");
-        faulty(1, "#Input a: x y;");
-        faulty(1, "#\tinput a: x y;");
-        faulty(1, "input #row: x y;");
-        faulty(1, "input #: x y;");
-        faulty(1, "input a #x y;");
-        faulty(1, "input a: #; x y;");
-        faulty(1, "input a: x#; output o: s t;");
-        faulty(1, "input a: x #else y;");
-        faulty(1, "input a: x y #* output o: s t;");
-        faulty(1, "input a: x y;#");
-        faulty(1, "input a: x y;  #");
-        faulty(1, "input a: x y; #row x -> s;");
-        faulty(1, "input a: x y; output o: s#; row x -> s;");
-        faulty(1, "input a: x y; output o: s t; #input b: x y;");
-        faulty(1, "input a: x y; output o: s t; #output p: x y;");
-        faulty(1, "input a: x y; output o: s t; #;");
-        faulty(1, "input a: x y; output o: s t; row #-> s;");
-        faulty(1, "input a: x y; output o: s t; row x #y -> s;");
-        faulty(1, "input a: x y; output o: s t; row x #* -> s;");
-        faulty(1, "input a: x y; output o: s t; row * #/ x -> s;");
-        faulty(1, "input a: x y; output o: s t; row !x #/ y -> s;");
-        faulty(1, "input a: x y; output o: s t; row !#* -> s;");
-        faulty(1, "input a: x y; output o: s t; row !#!x -> s;");
-        faulty(1, "input a: x y; output o: s t; row x/#!y -> s;");
-        faulty(1, "input a: x y; output o: s t; row x/#-> s;");
-        faulty(1, "input a: x y; output o: s t; row x #- > s;");
-        faulty(1, "input a: x y; output o: s t; row x #-");
-        faulty(1, "input a: x y; output o: s t; row x #> s;");
-        faulty(1, "input a: x y; output o: s t; row x -> #* ;");
-        faulty(1, "input a: x y; output o: s t; row x -> s #row y -> t;");
-        faulty(1, "input a: x y; output o: s t; row x -> s#");
-        faulty(1, "input a: x y; input b: x y; output o: s t; row x #-> s;");
-        faulty(1, "input a: x y; output o: s t; row x -> s; #when a: x then s;");
+        Texts.faulty(1, "#");
+        Texts.faulty(1, "  \n #");
+        Texts.faulty(1, "#output o: s t;");
+        Texts.faulty(1, "#inputs a: x y;");
+        Texts.faulty(1, "#inputinput a: x y;");
+        Texts.faulty(1, "#Input a: x y;");
+        Texts.faulty(1, "#\tinput a: x y;");
+        Texts.faulty(1, "input #row: x y;");
+        Texts.faulty(1, "input #: x y;");
+        Texts.faulty(1, "input a #x y;");
+        Texts.faulty(1, "input a: #; x y;");
+        Texts.faulty(1, "input a: x#; output o: s t;");
+        Texts.faulty(1, "input a: x #else y;");
+        Texts.faulty(1, "input a: x y #* output o: s t;");
+        Texts.faulty(1, "input a: x y;#");
+        Texts.faulty(1, "input a: x y;  #");
+        Texts.faulty(1, "input a: x y; #row x -> s;");
+        Texts.faulty(1, "input a: x y; output o: s#; row x -> s;");
+        Texts.faulty(1, "input a: x y; output o: s t; #input b: x y;");
+        Texts.faulty(1, "input a: x y; output o: s t; #output p: x y;");
+        Texts.faulty(1, "input a: x y; output o: s t; #;");
+        Texts.faulty(1, "input a: x y; output o: s t; row #-> s;");
+        Texts.faulty(1, "input a: x y; output o: s t; row x #y -> s;");
+        Texts.faulty(1, "input a: x y; output o: s t; row x #* -> s;");
+        Texts.faulty(1, "input a: x y; output o: s t; row * #/ x -> s;");
+        Texts.faulty(1, "input a: x y; output o: s t; row !x #/ y -> s;");
+        Texts.faulty(1, "input a: x y; output o: s t; row !#* -> s;");
+        Texts.faulty(1, "input a: x y; output o: s t; row !#!x -> s;");
+        Texts.faulty(1, "input a: x y; output o: s t; row x/#!y -> s;");
+        Texts.faulty(1, "input a: x y; output o: s t; row x/#-> s;");
+        Texts.faulty(1, "input a: x y; output o: s t; row x #- > s;");
+        Texts.faulty(1, "input a: x y; output o: s t; row x #-");
+        Texts.faulty(1, "input a: x y; output o: s t; row x #> s;");
+        Texts.faulty(1, "input a: x y; output o: s t; row x -> #* ;");
+        Texts.faulty(1, "input a: x y; output o: s t; row x -> s #row y -> t;");
+        Texts.faulty(1, "input a: x y; output o: s t; row x -> s#");
+        Texts.faulty(1, "input a: x y; input b: x y; output o: s t; row x #-> s;");
+        Texts.faulty(1, "input a: x y; output o: s t; row x -> s; #when a: x then s;");
         // A long word where no word can stand.
-        faulty(1, "#abcdefghi a: x y;");
-        faulty(1, "input a #abcdefghi x y;");
-        faulty(1, "input a: x y; output o: s t; row x #abcdefghi -> s;");
+        Texts.faulty(1, "#abcdefghi a: x y;");
+        Texts.faulty(1, "input a #abcdefghi x y;");
+        Texts.faulty(1, "input a: x y; output o: s t; row x #abcdefghi -> s;");
 
-        faulty(2, "input #abcdefghi: x y;");
-        faulty(2, "input a: #abcdefghi y;");
-        faulty(2, "input a: x y #abcdefghijklmnop;");
-        faulty(2, "input a: x y; output #abcdefghi: s t;");
-        faulty(2, "input a: x y; output o: s #012345678;");
-        faulty(2, "input a: x y; output o: s t; row #abcdefghi -> s;");
-        faulty(2, "input a: x y; output o: s t; row !#abcdefghi -> s;");
-        faulty(2, "input a: x y; output o: s t; row x/#abcdefghi -> s;");
-        faulty(2, "input a: x y; output o: s t; row x -> #abcdefghi;");
+        Texts.faulty(2, "input #abcdefghi: x y;");
+        Texts.faulty(2, "input a: #abcdefghi y;");
+        Texts.faulty(2, "input a: x y #abcdefghijklmnop;");
+        Texts.faulty(2, "input a: x y; output #abcdefghi: s t;");
+        Texts.faulty(2, "input a: x y; output o: s #012345678;");
+        Texts.faulty(2, "input a: x y; output o: s t; row #abcdefghi -> s;");
+        Texts.faulty(2, "input a: x y; output o: s t; row !#abcdefghi -> s;");
+        Texts.faulty(2, "input a: x y; output o: s t; row x/#abcdefghi -> s;");
+        Texts.faulty(2, "input a: x y; output o: s t; row x -> #abcdefghi;");
 
-        faulty(3, "input a: x y; output o: s t; row #z -> s;");
-        faulty(3, "input a: x y; output o: s t; row #a -> s;");
-        faulty(3, "input a: x y; output o: s t; row #s -> s;");
-        faulty(3, "input a: x y; input b: p q; output o: s t; row #p x -> s;");
-        faulty(3, "input a: x y; output o: s t; row !#z -> s;");
-        faulty(3, "input a: x y; output o: s t; row x/#z -> s;");
-        faulty(3, "input a: x y; output o: s t; row x -> #x;");
+        Texts.faulty(3, "input a: x y; output o: s t; row #z -> s;");
+        Texts.faulty(3, "input a: x y; output o: s t; row #a -> s;");
+        Texts.faulty(3, "input a: x y; output o: s t; row #s -> s;");
+        Texts.faulty(3, "input a: x y; input b: p q; output o: s t; row #p x -> s;");
+        Texts.faulty(3, "input a: x y; output o: s t; row !#z -> s;");
+        Texts.faulty(3, "input a: x y; output o: s t; row x/#z -> s;");
+        Texts.faulty(3, "input a: x y; output o: s t; row x -> #x;");
         // The first along the text, though another comes behind it.
-        faulty(3, "input a: x y; output o: s t; row #z -> @ abcdefghi");
+        Texts.faulty(3, "input a: x y; output o: s t; row #z -> @ abcdefghi");
 
-        faulty(4, "input a: x #x;");
-        faulty(4, "input a: x y #x;");
-        faulty(4, "input a: x y; input #a: x y;");
-        faulty(4, "input a: x y; input b: x y; output #a: s t;");
-        faulty(4, "input a: x y; output o: s t #s;");
-        faulty(4, "input a: x y; output o: s t; row x/#x -> s;");
-        faulty(4, "input a: x y; output o: s t; row x/y/#x -> s;");
+        Texts.faulty(4, "input a: x #x;");
+        Texts.faulty(4, "input a: x y #x;");
+        Texts.faulty(4, "input a: x y; input #a: x y;");
+        Texts.faulty(4, "input a: x y; input b: x y; output #a: s t;");
+        Texts.faulty(4, "input a: x y; output o: s t #s;");
+        Texts.faulty(4, "input a: x y; output o: s t; row x/#x -> s;");
+        Texts.faulty(4, "input a: x y; output o: s t; row x/y/#x -> s;");
     }
 
     private static void promise03Limits() {
         ExampleTables x = new ExampleTables();
-        Check.due("words of 8 signs", 0, () -> Check.table(x,
+        Check.due("words of 8 signs", 0, () -> Texts.table(x,
             "input abcdefgh: 01234567 12345678; output zzzzzzzz: inputinp t; row 12345678 -> inputinp;"));
-        Check.due("NAMES may be VALUES", 1, () -> Check.table(x, "input a: a o;output o: a o;row a/o->a;"));
-        Check.due("no blanks, and many", 2, () -> Check.table(x,
+        Check.due("NAMES may be VALUES", 1, () -> Texts.table(x, "input a: a o;output o: a o;row a/o->a;"));
+        Check.due("no blanks, and many", 2, () -> Texts.table(x,
             "\n\n  input\na\n:x y;output o:s t ; row!x->s;row   *   ->   t;row x / y->s;\n "));
         Check.due("so many ROWS", 3, () -> x.about(2, 3));
-        Check.due("6 VALUES each", 3, () -> Check.table(x, "input a: 1 2 3 4 5 6; output o: 1 2 3 4 5 6;"));
-        Check.due("400 CASES", 4, () -> Check.table(x,
+        Check.due("6 VALUES each", 3, () -> Texts.table(x, "input a: 1 2 3 4 5 6; output o: 1 2 3 4 5 6;"));
+        Check.due("400 CASES", 4, () -> Texts.table(x,
             "input a:1 2 3 4;input b:1 2 3 4;input c:1 2 3 4 5;input d:1 2 3 4 5;output o:1 2;"));
         Check.due("so many CASES", 400, () -> x.about(4, 1));
-        Check.due("5 INPUTS", 5, () -> Check.table(x,
+        Check.due("5 INPUTS", 5, () -> Texts.table(x,
             "input a:1 2 3 4 5;input b:1 2 3 4 5;input c:1 2 3 4;input d:1 2;input e:1 2;output o:1 2;"));
         Check.due("so many INPUTS", 5, () -> x.about(5, 0));
 
-        faulty(2, "input a: 1 2 3 4 5 6 #7;");
-        faulty(2, "input a: 1 2 3 4 5 6 #1;");
-        faulty(1, "input a: 1 2 3 4 5 6 #row;");
-        faulty(2, "input a: 1 2; output o: 1 2 3 4 5 6 #7;");
+        Texts.faulty(2, "input a: 1 2 3 4 5 6 #7;");
+        Texts.faulty(2, "input a: 1 2 3 4 5 6 #1;");
+        Texts.faulty(1, "input a: 1 2 3 4 5 6 #row;");
+        Texts.faulty(2, "input a: 1 2; output o: 1 2 3 4 5 6 #7;");
         String five = "input a:1 2;input b:1 2;input c:1 2;input d:1 2;input e:1 2;";
-        faulty(2, five + " #input f:1 2;");
-        faulty(1, five + " #inputs f:1 2;");
-        faulty(1, five + "#");
+        Texts.faulty(2, five + " #input f:1 2;");
+        Texts.faulty(1, five + " #inputs f:1 2;");
+        Texts.faulty(1, five + "#");
         String wide = "input a:1 2 3 4 5 6;input b:1 2 3 4 5 6;input c:1 2 3 4 5 6;";
-        faulty(2, wide + "input d: 1 #2;");
-        faulty(2, wide + "input d: 1 #1;");
-        faulty(1, wide + "input d: 1 #;");
-        faulty(1, wide + "input d: 1 #then;");
-        faulty(4, wide + "input #a: 1 2;");
-        faulty(2, "input a:1 2 3 4;input b:1 2 3 4;input c:1 2 3 4 5;input d:1 2 3 4 5 #6;");
-        faulty(2, "input a:1 2 3 4;input b:1 2 3 4;input c:1 2 3 4 5;input d:1 2 3 4 5;input e:1 #2;");
+        Texts.faulty(2, wide + "input d: 1 #2;");
+        Texts.faulty(2, wide + "input d: 1 #1;");
+        Texts.faulty(1, wide + "input d: 1 #;");
+        Texts.faulty(1, wide + "input d: 1 #then;");
+        Texts.faulty(4, wide + "input #a: 1 2;");
+        Texts.faulty(2, "input a:1 2 3 4;input b:1 2 3 4;input c:1 2 3 4 5;input d:1 2 3 4 5 #6;");
+        Texts.faulty(2, "input a:1 2 3 4;input b:1 2 3 4;input c:1 2 3 4 5;input d:1 2 3 4 5;input e:1 #2;");
 
-        String rows = TINY + "row*->s;".repeat(40);
+        String rows = Texts.TINY + "row*->s;".repeat(40);
         ExampleTables y = new ExampleTables();
-        Check.due("40 ROWS", 0, () -> Check.table(y, rows));
+        Check.due("40 ROWS", 0, () -> Texts.table(y, rows));
         Check.due("so many ROWS", 40, () -> y.about(0, 3));
-        faulty(2, rows + "#row*->s;");
-        faulty(2, rows + "#row");
-        faulty(1, rows + "#rows");
-        faulty(1, rows + "#*");
-        String text = TINY + "row*->s;".repeat(30);
-        Check.due("a text of 1,000 bytes", 1, () -> Check.table(y, text + " ".repeat(1000 - text.length())));
-        faulty(1, text + " ".repeat(999 - text.length()) + "#;");
-    }
-
-    private static void faultyProgram(int kind, String marked) {
-        int place = marked.indexOf('#');
-        String text = marked.substring(0, place) + marked.substring(place + 1);
-        ExampleTables x = with(SMALL);
-        Check.due("program '" + text + "'", -1 - kind, () -> Check.program(x, 0, text));
-        Check.due("fault of '" + text + "'", place, x::fault);
-        Check.due("no PROGRAM of '" + text + "'", 0, () -> x.count(1));
+        Texts.faulty(2, rows + "#row*->s;");
+        Texts.faulty(2, rows + "#row");
+        Texts.faulty(1, rows + "#rows");
+        Texts.faulty(1, rows + "#*");
+        String text = Texts.TINY + "row*->s;".repeat(30);
+        Check.due("a text of 1,000 bytes", 1, () -> Texts.table(y, text + " ".repeat(1000 - text.length())));
+        Texts.faulty(1, text + " ".repeat(999 - text.length()) + "#;");
     }
 
     private static void promise04Program() {
-        ExampleTables x = with(SMALL, OPEN);
-        Check.feed(x, "else yes; and more");
+        ExampleTables x = Texts.with(Texts.SMALL, Texts.OPEN);
+        Texts.feed(x, "else yes; and more");
         Check.noSuch("program of no TABLE", () -> x.program(2, 9));
         Check.noSuch("program of TABLE NONE", () -> x.program(-1, 9));
         Check.noSuch("program of no TABLE, nor bytes", () -> x.program(2, 99));
@@ -264,57 +219,57 @@ public final class PromiseTest {
         Check.due("the tape is empty", 0, () -> x.count(2));
         for (int k = 1; k < 12; k++) {
             int want = k;
-            Check.due("program " + k, want, () -> Check.program(x, 0, "else s;"));
+            Check.due("program " + k, want, () -> Texts.program(x, 0, "else s;"));
         }
-        Check.due("a 13th", -9, () -> Check.program(x, 0, "else s;"));
+        Check.due("a 13th", -9, () -> Texts.program(x, 0, "else s;"));
         Check.due("a 13th has no FAULT", -1, x::fault);
         Check.due("a 13th empties the tape", 0, () -> x.count(2));
-        Check.due("a 13th that is none", -9, () -> Check.program(x, 1, "else s;"));
+        Check.due("a 13th that is none", -9, () -> Texts.program(x, 1, "else s;"));
         Check.noSuch("a 13th of no TABLE", () -> x.program(2, 0));
         Check.illegal("a 13th that the tape has not", () -> x.program(0, 1));
         Check.due("12 PROGRAMS", 12, () -> x.count(1));
 
-        faultyProgram(1, "#");
-        faultyProgram(1, "#row x p -> s;");
-        faultyProgram(1, "#elses s;");
-        faultyProgram(1, "else #;");
-        faultyProgram(1, "else #when;");
-        faultyProgram(1, "else s#");
-        faultyProgram(1, "else s; #else s;");
-        faultyProgram(1, "else s; #when a: x then s;");
-        faultyProgram(1, "when #then s; else t;");
-        faultyProgram(1, "when #else: x then s; else t;");
-        faultyProgram(1, "when a #x then s; else t;");
-        faultyProgram(1, "when a: #then s; else t;");
-        faultyProgram(1, "when a: x #y then s; else t;");
-        faultyProgram(1, "when a: x #abcdefghi then s; else t;");
-        faultyProgram(1, "when a: * #/x then s; else t;");
-        faultyProgram(1, "when a: !x #/y then s; else t;");
-        faultyProgram(1, "when a: x and #and b: p then s; else t;");
-        faultyProgram(1, "when a: x and #then s; else t;");
-        faultyProgram(1, "when a: x #-> s; else t;");
-        faultyProgram(1, "when a: x then s #else t;");
-        faultyProgram(1, "when a: x then s;#");
-        faultyProgram(2, "else #abcdefghi;");
-        faultyProgram(2, "when #abcdefghi: x then s; else t;");
-        faultyProgram(2, "when a: #abcdefghi then s; else t;");
-        faultyProgram(2, "when a: x/#abcdefghi then s; else t;");
-        faultyProgram(2, "when a: x then #abcdefghi; else t;");
-        faultyProgram(3, "else #x;");
-        faultyProgram(3, "when #c: x then s; else t;");
-        faultyProgram(3, "when #o: s then s; else t;");
-        faultyProgram(3, "when #x: x then s; else t;");
-        faultyProgram(3, "when a: #p then s; else t;");
-        faultyProgram(3, "when a: !#p then s; else t;");
-        faultyProgram(3, "when a: x and b: #x then s; else t;");
-        faultyProgram(3, "when a: x then #y; else t;");
-        faultyProgram(4, "when b: p/q/#p then s; else t;");
+        Texts.faultyProgram(1, Texts.SMALL, "#");
+        Texts.faultyProgram(1, Texts.SMALL, "#row x p -> s;");
+        Texts.faultyProgram(1, Texts.SMALL, "#elses s;");
+        Texts.faultyProgram(1, Texts.SMALL, "else #;");
+        Texts.faultyProgram(1, Texts.SMALL, "else #when;");
+        Texts.faultyProgram(1, Texts.SMALL, "else s#");
+        Texts.faultyProgram(1, Texts.SMALL, "else s; #else s;");
+        Texts.faultyProgram(1, Texts.SMALL, "else s; #when a: x then s;");
+        Texts.faultyProgram(1, Texts.SMALL, "when #then s; else t;");
+        Texts.faultyProgram(1, Texts.SMALL, "when #else: x then s; else t;");
+        Texts.faultyProgram(1, Texts.SMALL, "when a #x then s; else t;");
+        Texts.faultyProgram(1, Texts.SMALL, "when a: #then s; else t;");
+        Texts.faultyProgram(1, Texts.SMALL, "when a: x #y then s; else t;");
+        Texts.faultyProgram(1, Texts.SMALL, "when a: x #abcdefghi then s; else t;");
+        Texts.faultyProgram(1, Texts.SMALL, "when a: * #/x then s; else t;");
+        Texts.faultyProgram(1, Texts.SMALL, "when a: !x #/y then s; else t;");
+        Texts.faultyProgram(1, Texts.SMALL, "when a: x and #and b: p then s; else t;");
+        Texts.faultyProgram(1, Texts.SMALL, "when a: x and #then s; else t;");
+        Texts.faultyProgram(1, Texts.SMALL, "when a: x #-> s; else t;");
+        Texts.faultyProgram(1, Texts.SMALL, "when a: x then s #else t;");
+        Texts.faultyProgram(1, Texts.SMALL, "when a: x then s;#");
+        Texts.faultyProgram(2, Texts.SMALL, "else #abcdefghi;");
+        Texts.faultyProgram(2, Texts.SMALL, "when #abcdefghi: x then s; else t;");
+        Texts.faultyProgram(2, Texts.SMALL, "when a: #abcdefghi then s; else t;");
+        Texts.faultyProgram(2, Texts.SMALL, "when a: x/#abcdefghi then s; else t;");
+        Texts.faultyProgram(2, Texts.SMALL, "when a: x then #abcdefghi; else t;");
+        Texts.faultyProgram(3, Texts.SMALL, "else #x;");
+        Texts.faultyProgram(3, Texts.SMALL, "when #c: x then s; else t;");
+        Texts.faultyProgram(3, Texts.SMALL, "when #o: s then s; else t;");
+        Texts.faultyProgram(3, Texts.SMALL, "when #x: x then s; else t;");
+        Texts.faultyProgram(3, Texts.SMALL, "when a: #p then s; else t;");
+        Texts.faultyProgram(3, Texts.SMALL, "when a: !#p then s; else t;");
+        Texts.faultyProgram(3, Texts.SMALL, "when a: x and b: #x then s; else t;");
+        Texts.faultyProgram(3, Texts.SMALL, "when a: x then #y; else t;");
+        Texts.faultyProgram(4, Texts.SMALL, "when b: p/q/#p then s; else t;");
         String whens = "when a:*then s;".repeat(40);
-        faultyProgram(2, whens + "#when a:*then s;else t;");
-        faultyProgram(1, whens + "#then");
-        ExampleTables y = with(SMALL);
-        Check.due("40 WHENS", 0, () -> Check.program(y, 0, whens + "else t;"));
-        Check.due("many TESTS", 1, () -> Check.program(y, 0,
+        Texts.faultyProgram(2, Texts.SMALL, whens + "#when a:*then s;else t;");
+        Texts.faultyProgram(1, Texts.SMALL, whens + "#then");
+        ExampleTables y = Texts.with(Texts.SMALL);
+        Check.due("40 WHENS", 0, () -> Texts.program(y, 0, whens + "else t;"));
+        Check.due("many TESTS", 1, () -> Texts.program(y, 0,
             "when a:*" + " and a:*".repeat(110) + " and b:!p then s;else t;"));
         Check.due("all of them hold", 0, () -> y.run(1, 1));
         Check.due("the last of them doesn't", 1, () -> y.run(1, 0));
@@ -323,21 +278,21 @@ public final class PromiseTest {
     private static void promise05Fault() {
         ExampleTables x = new ExampleTables();
         Check.due("fault before all", -1, x::fault);
-        Check.due("a FAULT", -5, () -> Check.table(x, "input a: x x;"));
+        Check.due("a FAULT", -5, () -> Texts.table(x, "input a: x x;"));
         Check.due("its place", 11, x::fault);
         Check.illegal("nothing changes by an exception", () -> x.table(1));
         Check.noSuch("nor by this one", () -> x.program(0, 0));
         Check.due("the same place", 11, x::fault);
-        Check.due("a TABLE", 0, () -> Check.table(x, SMALL));
+        Check.due("a TABLE", 0, () -> Texts.table(x, Texts.SMALL));
         Check.due("without", -1, x::fault);
-        Check.due("a FAULT of a PROGRAM", -4, () -> Check.program(x, 0, "  else x;"));
+        Check.due("a FAULT of a PROGRAM", -4, () -> Texts.program(x, 0, "  else x;"));
         Check.due("its place", 7, x::fault);
-        Check.due("a PROGRAM", 0, () -> Check.program(x, 0, "else s;"));
+        Check.due("a PROGRAM", 0, () -> Texts.program(x, 0, "else s;"));
         Check.due("without", -1, x::fault);
     }
 
     private static void about(String name, String table, int... want) {
-        ExampleTables x = with(table);
+        ExampleTables x = Texts.with(table);
         for (int what = 0; what < want.length; what++) {
             int asked = what;
             Check.due("about " + name + " " + what, want[what], () -> x.about(0, asked));
@@ -345,21 +300,21 @@ public final class PromiseTest {
     }
 
     private static void promise06About() {
-        about("small", SMALL, 2, 6, 2, 3, 0, 1, 0, 3, 0);
-        about("open", OPEN, 3, 8, 2, 3, 5, 0, 1, 2, 3);
-        about("tiny", TINY, 1, 2, 2, 0, 2, 0, 0, 0, 1);
-        ExampleTables x = with(SMALL);
+        about("small", Texts.SMALL, 2, 6, 2, 3, 0, 1, 0, 3, 0);
+        about("open", Texts.OPEN, 3, 8, 2, 3, 5, 0, 1, 2, 3);
+        about("tiny", Texts.TINY, 1, 2, 2, 0, 2, 0, 0, 0, 1);
+        ExampleTables x = Texts.with(Texts.SMALL);
         Check.noSuch("about 9", () -> x.about(0, 9));
         Check.noSuch("about -1", () -> x.about(0, -1));
-        Check.noSuch("about most", () -> x.about(0, MOST));
+        Check.noSuch("about most", () -> x.about(0, Check.MOST));
         Check.noSuch("about no TABLE", () -> x.about(1, 0));
         Check.noSuch("about TABLE -1", () -> x.about(-1, 0));
-        Check.noSuch("about TABLE most", () -> x.about(MOST, 0));
-        Check.noSuch("about TABLE least", () -> x.about(LEAST, 0));
+        Check.noSuch("about TABLE most", () -> x.about(Check.MOST, 0));
+        Check.noSuch("about TABLE least", () -> x.about(Check.LEAST, 0));
     }
 
     private static void promise07Answer() {
-        ExampleTables x = with(SMALL, OPEN);
+        ExampleTables x = Texts.with(Texts.SMALL, Texts.OPEN);
         int[] answers = {0, 1, 1, 0, 1, 1};
         int[] rows = {0, 1, 1, 2, 1, 1};
         int[] fits = {1, 1, 1, 1, 2, 2};
@@ -380,7 +335,7 @@ public final class PromiseTest {
     }
 
     private static void promise08Value() {
-        ExampleTables x = with(SMALL);
+        ExampleTables x = Texts.with(Texts.SMALL);
         for (int k = 0; k < 6; k++) {
             int number = k;
             Check.due("value of the first INPUT in " + k, k / 3, () -> x.value(0, number, 0));
@@ -394,7 +349,7 @@ public final class PromiseTest {
     }
 
     private static void promise09Hole() {
-        ExampleTables x = with(SMALL, OPEN);
+        ExampleTables x = Texts.with(Texts.SMALL, Texts.OPEN);
         for (int k = 0; k < 5; k++) {
             int i = k;
             Check.due("hole " + k, k + 1, () -> x.hole(1, i));
@@ -406,7 +361,7 @@ public final class PromiseTest {
     }
 
     private static void promise10Quarrel() {
-        ExampleTables x = with("input a: x y z; input b: p q; output o: s t;"
+        ExampleTables x = Texts.with("input a: x y z; input b: p q; output o: s t;"
             + " row x/y q -> s; row z * -> t; row !x * -> s; row * !p -> t; row y q -> t;");
         int[][] want = {{0, 3, 1}, {0, 4, 3}, {1, 2, 4}, {2, 3, 3}, {2, 4, 3}};
         Check.due("QUARRELS", want.length, () -> x.about(0, 5));
@@ -422,14 +377,14 @@ public final class PromiseTest {
         Check.noSuch("quarrel what 3", () -> x.quarrel(0, 0, 3));
         Check.noSuch("quarrel what -1", () -> x.quarrel(0, 0, -1));
         Check.noSuch("quarrel of no TABLE", () -> x.quarrel(1, 0, 0));
-        ExampleTables y = with(TINY + "row*->s;row*->t;".repeat(20));
+        ExampleTables y = Texts.with(Texts.TINY + "row*->s;row*->t;".repeat(20));
         Check.due("pairs of unlike VALUES among 40 ROWS", 400, () -> y.about(0, 5));
         Check.due("the last one's lesser", 38, () -> y.quarrel(0, 399, 0));
         Check.due("the last one's greater", 39, () -> y.quarrel(0, 399, 1));
     }
 
     private static void promise11Idle() {
-        ExampleTables x = with("input a: x y z; output o: s t;"
+        ExampleTables x = Texts.with("input a: x y z; output o: s t;"
             + " row x -> s; row x -> t; row y -> s; row y -> s; row x/y -> s; row z -> t;");
         // The first is missed in x, the 2nd fits nothing first, the 3rd and those behind stand in for one another.
         boolean[] want = {false, true, true, true, true, false};
@@ -444,7 +399,7 @@ public final class PromiseTest {
     }
 
     private static void promise12Term() {
-        ExampleTables x = with(SMALL, OPEN);
+        ExampleTables x = Texts.with(Texts.SMALL, Texts.OPEN);
         int[][] want = {{0, -1, 0}, {1, -1, 1}, {1, -1, 2}};
         for (int k = 0; k < want.length; k++) {
             for (int input = -1; input < 2; input++) {
@@ -465,29 +420,23 @@ public final class PromiseTest {
         Check.due("yes: c is any", -1, () -> x.term(1, 1, 2));
     }
 
-    private static void rule(String want, String table) {
-        ExampleTables x = with(table);
-        Check.due("tell of " + table, want.length(), () -> x.tell(0));
-        Check.due("told of " + table, want, () -> Check.told(x));
-    }
-
     private static void promise12Order() {
         // As many CASES, as many INPUTS: the first as a row, any behind the VALUES.
-        rule("s if a is y and b is q\nt if a is x\nt if b is p\n",
+        Texts.rule("s if a is y and b is q\nt if a is x\nt if b is p\n",
             "input a: x y; input b: p q; output o: s t; row y q -> s; row * * -> t;");
         // The first CASE alone is held already by the first TERM: the second is chosen for its one new CASE.
-        rule("s if a is x\ns if b is p\nt if a is y and b is q\n",
+        Texts.rule("s if a is x\ns if b is p\nt if a is y and b is q\n",
             "input a: x y; input b: p q; output o: s t; row y q -> t; row * * -> s;");
         // The fewest INPUTS, where HOLES give room for several TERMS.
-        rule("s if a is x\nt if a is y\n",
+        Texts.rule("s if a is x\nt if a is y\n",
             "input a: x y; input b: p q; output o: s t; row x p -> s; row y q -> t;");
-        rule("s if always\n", "input a: x y; input b: p q; output o: s t; row y q -> s;");
-        rule("t if always\n", "input a: x y; input b: p q; output o: s t; row * * -> t; row x p -> s;");
-        rule("", "input a: x y; input b: p q; output o: s t;");
+        Texts.rule("s if always\n", "input a: x y; input b: p q; output o: s t; row y q -> s;");
+        Texts.rule("t if always\n", "input a: x y; input b: p q; output o: s t; row * * -> t; row x p -> s;");
+        Texts.rule("", "input a: x y; input b: p q; output o: s t;");
     }
 
     private static void promise13Offered() {
-        ExampleTables x = with(SMALL, OPEN, TINY);
+        ExampleTables x = Texts.with(Texts.SMALL, Texts.OPEN, Texts.TINY);
         int[][] want = {{2, 0, 1, -1}, {2, 1, 0, -1}, {2, 0, -1, 1}};
         for (int k = 0; k < want.length; k++) {
             for (int input = -1; input < 3; input++) {
@@ -525,9 +474,9 @@ public final class PromiseTest {
     }
 
     private static void promise14Tell() {
-        ExampleTables x = with(SMALL, TINY);
+        ExampleTables x = Texts.with(Texts.SMALL, Texts.TINY);
         Check.due("tell", 36, () -> x.tell(0));
-        Check.due("told", "s if b is p\nt if b is q\nt if b is r\n", () -> Check.told(x));
+        Check.due("told", "s if b is p\nt if b is q\nt if b is r\n", () -> Texts.told(x));
         Check.noSuch("tell of no TABLE", () -> x.tell(2));
         Check.noSuch("tell of TABLE -1", () -> x.tell(-1));
         Check.due("OUT is as before", 36, () -> x.count(3));
@@ -535,25 +484,25 @@ public final class PromiseTest {
         Check.due("OUT is empty", 0, () -> x.count(3));
 
         // 27 TERMS of 59 bytes: under 2,000 bytes all are kept.
-        ExampleTables y = with(chequered("c1 c2 c3", "x1 x2 x3"));
+        ExampleTables y = Texts.with(chequered("c1 c2 c3", "x1 x2 x3"));
         Check.due("TERMS", 27, () -> y.about(0, 7));
         Check.due("tell", 27 * 59, () -> y.tell(0));
         Check.due("kept", 27 * 59, () -> y.count(3));
     }
 
     private static void promise15Told() {
-        ExampleTables x = with(SMALL);
+        ExampleTables x = Texts.with(Texts.SMALL);
         Check.noSuch("told before tell", () -> x.told(0));
         x.tell(0);
         Check.due("told 0", (int) 's', () -> x.told(0));
         Check.due("told 35", 10, () -> x.told(35));
         Check.noSuch("told 36", () -> x.told(36));
         Check.noSuch("told -1", () -> x.told(-1));
-        Check.noSuch("told most", () -> x.told(MOST));
-        Check.noSuch("told least", () -> x.told(LEAST));
+        Check.noSuch("told most", () -> x.told(Check.MOST));
+        Check.noSuch("told least", () -> x.told(Check.LEAST));
 
         // 36 TERMS of 58 bytes: the first 2,000 are kept.
-        ExampleTables y = with(chequered("c1 c2 c3 c4", "x y z"));
+        ExampleTables y = Texts.with(chequered("c1 c2 c3 c4", "x y z"));
         Check.due("TERMS", 36, () -> y.about(0, 7));
         Check.due("tell counts all", 36 * 58, () -> y.tell(0));
         Check.due("2,000 are kept", 2000, () -> y.count(3));
@@ -567,10 +516,10 @@ public final class PromiseTest {
     }
 
     private static void promise16Run() {
-        ExampleTables x = with(SMALL, TINY);
-        Check.program(x, 0, "when a: y and b: !q then s; when b: p/r and b: !p then t; else t;");
-        Check.program(x, 1, "when a: x and a: y then s; else t;");
-        Check.program(x, 0, "when a: * then s; when a: x then t; else t;");
+        ExampleTables x = Texts.with(Texts.SMALL, Texts.TINY);
+        Texts.program(x, 0, "when a: y and b: !q then s; when b: p/r and b: !p then t; else t;");
+        Texts.program(x, 1, "when a: x and a: y then s; else t;");
+        Texts.program(x, 0, "when a: * then s; when a: x then t; else t;");
         int[] want = {1, 1, 1, 0, 1, 0};
         for (int k = 0; k < 6; k++) {
             int number = k;
@@ -583,14 +532,14 @@ public final class PromiseTest {
         Check.noSuch("run in CASE -1", () -> x.run(1, -1));
         Check.noSuch("run of no PROGRAM", () -> x.run(3, 0));
         Check.noSuch("run of PROGRAM -1", () -> x.run(-1, 0));
-        Check.noSuch("run of PROGRAM most", () -> x.run(MOST, 0));
+        Check.noSuch("run of PROGRAM most", () -> x.run(Check.MOST, 0));
     }
 
     private static ExampleTables failingOnes() {
-        ExampleTables x = with(SMALL, OPEN);
-        Check.program(x, 0, "when b: p then s; else t;");
-        Check.program(x, 0, "when a: y and b: !q then s; else t;");
-        Check.program(x, 1, "else no;");
+        ExampleTables x = Texts.with(Texts.SMALL, Texts.OPEN);
+        Texts.program(x, 0, "when b: p then s; else t;");
+        Texts.program(x, 0, "when a: y and b: !q then s; else t;");
+        Texts.program(x, 1, "else no;");
         return x;
     }
 
@@ -627,10 +576,10 @@ public final class PromiseTest {
     }
 
     private static void promise19Changed() {
-        ExampleTables x = with(OPEN, OPEN);
-        Check.program(x, 0, "else no;");
-        Check.program(x, 0, "when a: 1 then yes; else no;");
-        Check.program(x, 1, "else no;");
+        ExampleTables x = Texts.with(Texts.OPEN, Texts.OPEN);
+        Texts.program(x, 0, "else no;");
+        Texts.program(x, 0, "when a: 1 then yes; else no;");
+        Texts.program(x, 1, "else no;");
         int[] want = {4, 2, 4};
         for (int k = 0; k < 3; k++) {
             int what = k;
@@ -649,9 +598,9 @@ public final class PromiseTest {
     }
 
     private static void promise20Count() {
-        ExampleTables x = with(SMALL, OPEN);
-        Check.program(x, 0, "else s;");
-        Check.feed(x, "else yes;");
+        ExampleTables x = Texts.with(Texts.SMALL, Texts.OPEN);
+        Texts.program(x, 0, "else s;");
+        Texts.feed(x, "else yes;");
         x.tell(1);
         int[] want = {2, 1, 20, 27};
         for (int k = 0; k < 4; k++) {
@@ -660,6 +609,6 @@ public final class PromiseTest {
         }
         Check.noSuch("count 4", () -> x.count(4));
         Check.noSuch("count -1", () -> x.count(-1));
-        Check.noSuch("count most", () -> x.count(MOST));
+        Check.noSuch("count most", () -> x.count(Check.MOST));
     }
 }

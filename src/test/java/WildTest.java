@@ -30,7 +30,7 @@ public final class WildTest {
         while (calls < CALLS - 60) {
             if (lot.nextInt(12) == 0) {
                 String text = TEXTS[lot.nextInt(TEXTS.length)];
-                Check.feed(x, text);
+                Texts.feed(x, text);
                 int n = text.length();
                 boolean program = lot.nextBoolean();
                 int table = some();

@@ -1,18 +1,32 @@
 import java.util.NoSuchElementException;
 
-/** What the tests have in common: counting wrong answers, feeding texts, telling exceptions. */
+/** Counts wrong answers, and tells exceptions as answers. */
 final class Check {
+    static final int LEAST = Integer.MIN_VALUE;
+    static final int MOST = Integer.MAX_VALUE;
     static final String NO_SUCH_ELEMENT = "NoSuchElementException";
     static final String ILLEGAL_ARGUMENT = "IllegalArgumentException";
 
     private static int wrong = 0;
     private static int asked = 0;
+    private static int sentences = 0;
+    private static String heading = "";
 
     private Check() {
     }
 
     interface Call {
         Object answer();
+    }
+
+    interface Asked {
+        Object of(int k);
+    }
+
+    /** The words of the document that the answers behind it stand for. */
+    static void sentence(String words) {
+        sentences++;
+        heading = "[" + words + "] ";
     }
 
     /** The answer of a call, or the name of the exception that it throws. */
@@ -32,7 +46,7 @@ final class Check {
         if (!got.equals(String.valueOf(want))) {
             wrong++;
             if (wrong <= 50) {
-                System.out.println(what + ": answered " + got + ", due is " + want);
+                System.out.println(heading + what + ": answered " + got + ", due is " + want);
             }
         }
     }
@@ -45,42 +59,30 @@ final class Check {
         due(what, ILLEGAL_ARGUMENT, call);
     }
 
-    /** Feeds a text, with blanks behind it up to whole feeds. */
-    static void feed(ExampleTables x, String text) {
-        for (int from = 0; from < text.length(); from += 20) {
-            x.feed(number(text, from), number(text, from + 4), number(text, from + 8),
-                number(text, from + 12), number(text, from + 16));
+    /** The answers from 0 on. */
+    static void row(String what, Asked call, int... want) {
+        for (int k = 0; k < want.length; k++) {
+            int at = k;
+            due(what + " " + k, want[k], () -> call.of(at));
         }
     }
 
-    private static int number(String text, int from) {
-        int number = 0;
-        for (int i = from; i < from + 4; i++) {
-            number = (number << 8) | (i < text.length() ? text.charAt(i) & 255 : ' ');
+    /** There is none below the least, none from the end on, however far. */
+    static void noneBeyond(String what, int least, int end, Asked call) {
+        for (int k : new int[] {least - 1, LEAST, end, MOST}) {
+            noSuch(what + " " + k, () -> call.of(k));
         }
-        return number;
     }
 
-    static int table(ExampleTables x, String text) {
-        feed(x, text);
-        return x.table(text.length());
-    }
-
-    static int program(ExampleTables x, int table, String text) {
-        feed(x, text);
-        return x.program(table, text.length());
-    }
-
-    static String told(ExampleTables x) {
-        StringBuilder all = new StringBuilder();
-        for (int k = 0; k < x.count(3); k++) {
-            all.append((char) x.told(k));
-        }
-        return all.toString();
+    /** The answers from 0 on, and no more of them. */
+    static void wholeRow(String what, Asked call, int... want) {
+        row(what, call, want);
+        noneBeyond(what, 0, want.length, call);
     }
 
     static void end() {
-        System.out.println(asked + " answers asked, " + wrong + " wrong");
+        String of = sentences == 0 ? "" : " of " + sentences + " sentences";
+        System.out.println(asked + " answers" + of + " asked, " + wrong + " wrong");
         if (wrong != 0 || asked == 0) {
             System.exit(1);
         }
