@@ -400,7 +400,7 @@ public final class ExampleTables {
             while (from < length) {
                 int sign = text[from];
                 if (isWordSign(sign)) {
-                    from = cutWord(text, from, length);
+                    from = Math.max(from + 1, cutWord(text, from, length));
                 } else if (sign == ' ' || sign == '\n') {
                     from++;
                 } else {
@@ -1120,31 +1120,33 @@ public final class ExampleTables {
             return NONE;
         }
 
-        /** The TERM that tells a VALUE where this one tells any; it comes before this one. */
-        private int narrower(int term, int input, int value) {
-            return term - (sizes[input] - value) * strides[input];
+        /** The first of the TERMS that tell a VALUE where this one tells any: they come before it, a stride apart. */
+        private int firstNarrower(int term, int input) {
+            return term - sizes[input] * strides[input];
         }
 
         void findOnlyAnswers(int[] answers) {
             for (int term = 0; term < count; term++) {
-                int input = firstAny(term);
-                if (input == NONE) {
-                    only[term] = answers[caseOf[term]];
-                } else {
-                    only[term] = onlyOfNarrower(term, input);
-                }
+                int number = caseOf[term];
+                boolean oneCase = number >= 0 && number < answers.length;
+                only[term] = oneCase ? answers[number] : onlyOfNarrower(term);
             }
         }
 
-        private int onlyOfNarrower(int term, int input) {
+        private int onlyOfNarrower(int term) {
+            int input = firstAny(term);
+            if (input == NONE) {
+                return NONE;
+            }
             int common = NONE;
-            for (int value = 0; value < sizes[input]; value++) {
-                int one = only[narrower(term, input, value)];
+            int at = firstNarrower(term, input);
+            for (int value = 0; value < sizes[input] && at >= 0 && at < term; value++) {
                 if (common == NONE) {
-                    common = one;
-                } else if (one != NONE && one != common) {
+                    common = only[at];
+                } else if (only[at] != NONE && only[at] != common) {
                     return MIXED;
                 }
+                at += strides[input];
             }
             return common;
         }
@@ -1193,13 +1195,16 @@ public final class ExampleTables {
         }
 
         private int gainOf(int term) {
+            int number = caseOf[term];
             int input = firstAny(term);
             if (input == NONE) {
-                return open[caseOf[term]] ? 1 : 0;
+                return number >= 0 && number < open.length && open[number] ? 1 : 0;
             }
             int sum = 0;
-            for (int value = 0; value < sizes[input]; value++) {
-                sum += gains[narrower(term, input, value)];
+            int at = firstNarrower(term, input);
+            for (int value = 0; value < sizes[input] && at >= 0 && at < term; value++) {
+                sum += gains[at];
+                at += strides[input];
             }
             return sum;
         }

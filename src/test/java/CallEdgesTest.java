@@ -176,8 +176,12 @@ public final class CallEdgesTest {
         Check.due("one INPUT", 0, () -> Texts.table(x, Texts.TINY));
         Check.wholeRow("alone", what -> x.about(0, what), 1, 2, 2, 0, 2, 0, 0, 0, 1);
         Check.due("40 ROWS", -2, () -> Texts.table(x, Texts.TINY + "row*->s;".repeat(40) + "@"));
-        Check.due("40 others", 1, () -> Texts.table(x, Texts.TINY + "row x->t;".repeat(40)));
-        Check.wholeRow("alone", what -> x.about(1, what), 1, 2, 2, 40, 1, 0, 40, 1, 1);
+        Check.due("one ROW", 1, () -> Texts.table(x, Texts.TINY + "row x->t;"));
+        Check.wholeRow("alone", what -> x.about(1, what), 1, 2, 2, 1, 1, 0, 0, 1, 1);
+        Check.row("fits alone", number -> x.answer(1, number, 2), 1, 0);
+        Check.due("40 ROWS again", -2, () -> Texts.table(x, Texts.TINY + "row*->s;".repeat(40) + "@"));
+        Check.due("40 others", 2, () -> Texts.table(x, Texts.TINY + "row x->t;".repeat(40)));
+        Check.wholeRow("alone", what -> x.about(2, what), 1, 2, 2, 40, 1, 0, 40, 1, 1);
         Check.due("a PROGRAM with WHENS", -2, () -> Texts.program(x, 0, "when a: x then t; when a: * then t; else t"));
         Check.due("one without", 0, () -> Texts.program(x, 0, ELSE));
         Check.wholeRow("answers by its own 'else'", number -> x.run(0, number), 0, 0);

@@ -129,6 +129,8 @@ public final class MeaningEdgesTest {
         quarrelsOf(Texts.TINY + "row x -> s;");
         quarrelsOf(Texts.TINY + "row x -> s; row y -> t;");
         quarrelsOf(Texts.TINY + "row x -> s; row !x -> t;");
+        quarrelsOf(Texts.TINY + "row !x -> s; row !y -> t;");
+        quarrelsOf("input a: x y z; output o: s t; row !x -> s; row !y -> t; row !z -> s;", 0, 1, 2, 1, 2, 0);
         quarrelsOf(SQUARE + "row x p -> s; row x q -> t;");
         quarrelsOf(SQUARE + "row x p -> s; row y p -> t;");
         quarrelsOf(SQUARE + "row x * -> s; row * q -> t;", 0, 1, 1);
